@@ -1,0 +1,156 @@
+import java.util.function.Supplier;
+
+/** Promises 13 to 15: the pit, the lathe, and mending. */
+public final class ShopTest {
+    private static final Class<IndexOutOfBoundsException> INDEX = IndexOutOfBoundsException.class;
+    private static final Class<IllegalStateException> STATE = IllegalStateException.class;
+    private static final int FLAT = Stablingroad.FLAT;
+    private static final int DOOR = Stablingroad.DOOR;
+    private static final int ENGINE = Stablingroad.ENGINE;
+    private static final int TOILET = Stablingroad.TOILET;
+
+    private static final Check check = new Check();
+
+    private ShopTest() {}
+
+    public static void main(String[] args) {
+        examine();
+        examineRefused();
+        lathe();
+        latheBelowNothing();
+        latheRefused();
+        mend();
+        mendRefused();
+        check.end("ShopTest");
+    }
+
+    private static void examine() {
+        for (int exam = 0; exam < 3; exam++) {
+            Stablingroad x = new Stablingroad();
+            x.unit(0, 500);
+            x.unit(0, 0);
+            x.diagram(0, 0, 300, 0, 1);
+            x.day();
+            check.same("13: how many", x.examine(0, exam), exam + 1);
+            for (int k = 0; k < 3; k++) {
+                check.same("13: km", x.clock(0, k, false), k <= exam ? 0 : 300);
+                check.same("13: days", x.clock(0, k, true), k <= exam ? 0 : 1);
+                check.same("13: not those of others", x.clock(1, k, true), 1);
+            }
+            check.same("13: the km stay", x.about(0, 1), 800);
+            check.same("13: the axles stay", x.axle(0, 0), 899);
+        }
+    }
+
+    private static void examineRefused() {
+        Supplier<Stablingroad> small = Depots.small();
+        check.refused("13: unit 3", INDEX, small, y -> y.examine(3, 0));
+        check.refused("13: unit -1", INDEX, small, y -> y.examine(-1, 0));
+        check.refused("13: exam 3", INDEX, small, y -> y.examine(0, 3));
+        check.refused("13: exam -1", INDEX, small, y -> y.examine(0, -1));
+        check.refused("13: exam, then place", INDEX, small, y -> y.examine(1, 3));
+        check.refused("13: at the depot 2", STATE, small, y -> y.examine(1, 0));
+        Supplier<Stablingroad> taken = Check.after(y -> {
+            y.unit(0, 0);
+            y.unit(0, 0);
+            y.day();
+            y.examine(0, 0);
+        });
+        check.refused("13: done today", STATE, taken, y -> y.examine(1, 0));
+        check.refused("13: the same today", STATE, taken, y -> y.examine(0, 1));
+        check.refused("13: exam, then done today", INDEX, taken, y -> y.examine(1, 3));
+    }
+
+    private static void lathe() {
+        Stablingroad x = new Stablingroad();
+        x.unit(0, 0);
+        x.unit(0, 0);
+        x.fault(0, FLAT, 0, 3);
+        x.fault(0, DOOR, 0, 1);
+        x.fault(0, FLAT, 0, 4);
+        x.fault(0, FLAT, 3, 6);
+        x.fault(0, ENGINE, 0, 100);
+        x.fault(1, FLAT, 0, 20);
+        check.same("14: the flats of an axle together", x.lathe(0), 893);
+        for (int a = 0; a < 4; a++) {
+            check.same("14: all axles alike", x.axle(0, a), 893);
+            check.same("14: not those of others", x.axle(1, a), 900);
+        }
+        check.same("14: flats gone, others not", x.about(0, 2), 2);
+        check.same("14: the door stays", x.faultAt(0, 0, 0), DOOR);
+        check.same("14: the engine stays", x.faultAt(0, 1, 0), ENGINE);
+        check.same("14: the other's flat stays", x.about(1, 2), 1);
+        Stablingroad least = new Stablingroad();
+        least.unit(0, 0);
+        least.diagram(0, 0, 1000, 0, 1);
+        least.day();
+        least.fault(0, FLAT, 1, 1);
+        check.same("14: the axle 0 is the least", least.axle(0, 0), 897);
+        check.same("14: it stays the least", least.lathe(0), 897);
+        least.day();
+        least.fault(0, FLAT, 1, 1);
+        check.same("14: the flat makes the least", least.lathe(0), 896);
+        least.day();
+        check.same("14: no flats, no change", least.lathe(0), 896);
+    }
+
+    private static void latheBelowNothing() {
+        Stablingroad x = new Stablingroad();
+        x.unit(0, 0);
+        for (int day = 0; day < 6; day++) {
+            for (int i = 0; i < 8; i++) {
+                x.fault(0, FLAT, 1, 20);
+            }
+            check.same("14: below 0 perhaps", x.lathe(0), 900 - 160 * (day + 1));
+            x.day();
+        }
+        check.same("14: below 0", x.axle(0, 2), -60);
+    }
+
+    private static void latheRefused() {
+        Supplier<Stablingroad> small = Depots.small();
+        check.refused("14: unit 3", INDEX, small, y -> y.lathe(3));
+        check.refused("14: unit -1", INDEX, small, y -> y.lathe(-1));
+        check.refused("14: at the depot 2", STATE, small, y -> y.lathe(1));
+        check.refused("14: turned today", STATE, small, y -> y.lathe(2));
+        check.refused("14: the same today", STATE, small, y -> y.lathe(0));
+        Supplier<Stablingroad> away = Check.after(y -> {
+            y.unit(1, 0);
+            y.unit(0, 0);
+            y.fault(0, FLAT, 0, 1);
+        });
+        check.refused("14: at the depot 1", STATE, away, y -> y.lathe(0));
+        Stablingroad both = away.get();
+        check.same("14: the lathe", both.lathe(1), 900);
+        check.same("13: and the pit on the same day", both.examine(1, 0), 1);
+    }
+
+    private static void mend() {
+        Stablingroad x = new Stablingroad();
+        x.unit(2, 0);
+        x.fault(0, TOILET, 0, 0);
+        x.fault(0, FLAT, 0, 1);
+        x.fault(0, ENGINE, 0, 7);
+        x.fault(0, DOOR, 3, 0);
+        x.fault(0, ENGINE, 0, 9);
+        check.same("15: an engine", x.mend(0, 2), ENGINE);
+        check.same("15: one less", x.about(0, 2), 4);
+        check.same("15: those behind move on", x.faultAt(0, 2, 0), DOOR);
+        check.same("15: those before stay", x.faultAt(0, 1, 0), FLAT);
+        check.same("15: a door", x.mend(0, 2), DOOR);
+        check.same("15: the other engine", x.faultAt(0, 2, 3), 9);
+        check.same("15: a toilet", x.mend(0, 0), TOILET);
+        check.same("15: the last", x.mend(0, 1), ENGINE);
+        check.same("15: the flat is left", x.about(0, 2), 1);
+    }
+
+    private static void mendRefused() {
+        Supplier<Stablingroad> small = Depots.small();
+        check.refused("15: unit 3", INDEX, small, y -> y.mend(3, 0));
+        check.refused("15: unit -1", INDEX, small, y -> y.mend(-1, 0));
+        check.refused("15: place 1", INDEX, small, y -> y.mend(0, 1));
+        check.refused("15: place -1", INDEX, small, y -> y.mend(0, -1));
+        check.refused("15: no faults", INDEX, small, y -> y.mend(2, 0));
+        check.refused("15: a flat", STATE, small, y -> y.mend(1, 0));
+    }
+}
