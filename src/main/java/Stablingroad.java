@@ -423,11 +423,9 @@ public final class Stablingroad {
         }
 
         void beginAgain(int exam) {
-            for (int k = 0; k <= exam && k < EXAMS; k++) {
-                if (k < kmClocks.length && k < dayClocks.length) {
-                    kmClocks[k] = 0;
-                    dayClocks[k] = 0;
-                }
+            for (int k = 0; k <= exam && k < kmClocks.length && k < dayClocks.length; k++) {
+                kmClocks[k] = 0;
+                dayClocks[k] = 0;
             }
         }
 
@@ -871,11 +869,8 @@ public final class Stablingroad {
         // -- by all allocations, the lowest first, so that of equally good ones the first is kept
 
         void allocateByAll() {
-            Arrays.fill(trial, NONE);
+            Arrays.fill(trial, firstChoice());
             Arrays.fill(given, NONE);
-            for (int d = 0; d < diagramCount; d++) {
-                put(trial, d, unitCount == 0 ? NONE : 0);
-            }
             int all = howManyTrials();
             for (int i = 0; i < all; i++) {
                 if (trialIsAllowed() && trialIsBetter()) {
@@ -901,8 +896,12 @@ public final class Stablingroad {
                     put(trial, d, u + 1 < unitCount ? u + 1 : NONE);
                     return;
                 }
-                put(trial, d, unitCount == 0 ? NONE : 0);
+                put(trial, d, firstChoice());
             }
+        }
+
+        private int firstChoice() {
+            return unitCount == 0 ? NONE : 0;
         }
 
         private boolean trialIsAllowed() {

@@ -66,4 +66,14 @@ final class Depots {
         x.day();
         return x;
     }
+
+    /** A unit at the depot 0 that ran so many km, and may go on so. */
+    static Stablingroad atShop(int ran) {
+        Stablingroad x = new Stablingroad();
+        examsFarAway(x);
+        x.unit(0, 0);
+        x.diagram(0, 0, ran, 0, 1);
+        x.day();
+        return x;
+    }
 }

@@ -128,9 +128,14 @@ public final class MayRunTest {
 
     /** A unit with its flat turned away, so that all axles are of that size. */
     private static Stablingroad turnedTo(int size) {
+        return turnedTo(size, 0);
+    }
+
+    private static Stablingroad turnedTo(int size, int km) {
         Stablingroad x = new Stablingroad();
-        x.unit(0, 0);
+        x.unit(0, km);
         x.diagram(0, 1, 1, 0, 1);
+        x.diagram(1, 0, 1, 0, 1);
         for (int left = 900 - size; left > 0; left -= 20) {
             x.fault(0, FLAT, 2, Math.min(20, left));
         }
@@ -142,6 +147,15 @@ public final class MayRunTest {
         check.same("8: 800", turnedTo(800).axle(0, 3), 800);
         check.same("8: 800 is not below 800", turnedTo(800).whyNot(0, 0), 0);
         check.same("8: 799 is", turnedTo(799).whyNot(0, 0), 5);
+        // From 499 to 500 km the others lose 1, and the axle 0 nothing.
+        Stablingroad x = turnedTo(800, 499);
+        check.same("8: all are 800", x.whyNot(0, 0), 0);
+        x.day();
+        check.same("8: the axle 0 is 800", x.axle(0, 0), 800);
+        for (int a = 1; a < 4; a++) {
+            check.same("8: this one is less", x.axle(0, a), 799);
+        }
+        check.same("8: another than the axle 0 is below 800", x.whyNot(0, 1), 5);
     }
 
     /** A unit that ran 2000 km a day, and then a last stretch. */

@@ -21,6 +21,8 @@ public final class MorningTest {
         homingBehindLack();
         homingByTheClocks();
         pins();
+        anewFirst();
+        homingOfTheFirst();
         allocationRefused();
         lack();
         check.end("MorningTest");
@@ -218,6 +220,42 @@ public final class MorningTest {
         allocated("a unit that is pinned goes elsewhere", x, 0, 1, NONE);
         x.pin(2, NONE);
         allocated("no pins any more", x, 0, 1, 2);
+    }
+
+    /** By all allocations, without that by parts having been asked before. */
+    private static void anewFirst() {
+        Stablingroad x = new Stablingroad();
+        for (int u = 0; u < 3; u++) {
+            x.unit(0, 0);
+        }
+        for (int d = 0; d < 4; d++) {
+            x.diagram(0, 0, 10, 0, 4 - d);
+        }
+        int[] due = {0, 1, 2, NONE};
+        for (int d = 0; d < 4; d++) {
+            check.same("10: asked first, diagram " + d, x.allocationAnew(d), due[d]);
+        }
+        x.fault(0, DOOR, 0, 0);
+        x.fault(1, DOOR, 0, 0);
+        check.same("10: asked behind a change", x.allocationAnew(0), 2);
+        check.same("10: the second goes without", x.allocationAnew(1), NONE);
+        x.fault(2, DOOR, 0, 0);
+        check.same("10: nothing of before is kept", x.allocationAnew(0), NONE);
+    }
+
+    private static void homingOfTheFirst() {
+        Stablingroad x = new Stablingroad();
+        x.unit(0, 0);
+        x.unit(0, 0);
+        x.diagram(0, 0, 40, 0, 5);
+        x.pin(0, 1);
+        x.day();
+        x.day();
+        x.exam(0, 100, 20, 9);
+        x.pin(0, NONE);
+        allocated("it alone", x, 1);
+        x.diagram(0, 1, 40, 0, 5);
+        allocated("the diagram 0 brings it home", x, 1, 0);
     }
 
     private static void allocationRefused() {

@@ -68,6 +68,8 @@ public final class QuestionsTest {
             check.same("17: up to the bound and the days", x.about(0, 5), 0);
             x.exam(exam, 1000, 9, 1);
             check.same("17: above the bound of " + exam, x.about(0, 5), 1 << exam);
+            x.exam(exam, 1099, 0, 1);
+            check.same("17: by 1 above the bound of " + exam, x.about(0, 5), 1 << exam);
             x.exam(exam, 1000, 10, 0);
             check.same("17: above the days of " + exam, x.about(0, 5), 1 << exam);
             x.exam(exam, 100000, 10, 400);

@@ -80,18 +80,19 @@ public final class ShopTest {
         check.same("14: the door stays", x.faultAt(0, 0, 0), DOOR);
         check.same("14: the engine stays", x.faultAt(0, 1, 0), ENGINE);
         check.same("14: the other's flat stays", x.about(1, 2), 1);
-        Stablingroad least = new Stablingroad();
-        least.unit(0, 0);
-        least.diagram(0, 0, 1000, 0, 1);
-        least.day();
+        check.same("14: no flats, the axle 0 is the least", Depots.atShop(1000).lathe(0), 897);
+        Stablingroad deep = Depots.atShop(1000);
+        deep.fault(0, FLAT, 0, 2);
+        check.same("14: a flat of the least axle", deep.lathe(0), 895);
+        Stablingroad least = Depots.atShop(1000);
         least.fault(0, FLAT, 1, 1);
         check.same("14: the axle 0 is the least", least.axle(0, 0), 897);
         check.same("14: it stays the least", least.lathe(0), 897);
         least.day();
-        least.fault(0, FLAT, 1, 1);
-        check.same("14: the flat makes the least", least.lathe(0), 896);
-        least.day();
-        check.same("14: no flats, no change", least.lathe(0), 896);
+        check.same("14: the axle 0 behind 1000 km more", least.axle(0, 0), 894);
+        check.same("14: the axle 1 behind 1000 km more", least.axle(0, 1), 895);
+        least.fault(0, FLAT, 1, 2);
+        check.same("14: the flat makes the least", least.lathe(0), 893);
     }
 
     private static void latheBelowNothing() {

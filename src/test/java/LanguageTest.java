@@ -1,0 +1,81 @@
+import java.io.IOException;
+import java.nio.file.Files;
+import java.nio.file.Path;
+import java.util.List;
+import java.util.Set;
+import java.util.regex.Matcher;
+import java.util.regex.Pattern;
+
+/** What can be seen of LANGUAGE.md in the text of the class. */
+public final class LanguageTest {
+    private static final Path CLASS_FILE = Path.of("src/main/java/Stablingroad.java");
+    private static final int LONGEST_METHOD = 60;
+
+    private static final String[] NOT_THERE = {
+        "\\btry\\b", "\\bcatch\\b", "\\bfinally\\b", "\\bsynchronized\\b", "\\bassert\\b",
+        "->", "::", "\\bpackage\\b", "\\bprotected\\b", "\\bvar\\b", "\\bfloat\\b", "\\bdouble\\b",
+        "\\bequals\\b", "\\bhashCode\\b", "\\btoString\\b", "\"\\s*\\+", "\\+\\s*\"", "\\bwhile\\b",
+        "\\w+Exact\\b", "\\bSystem\\.(?!arraycopy\\b)", "\\bThread\\b", "\\bRandom\\b", "\\bstatic\\s*\\{",
+        "\\b(Array|Arithmetic|ClassCast|NegativeArray|NullPointer)\\w*Exception\\b"
+    };
+    private static final Set<String> IMPORTS = Set.of("java.util.ArrayList", "java.util.Arrays");
+    private static final Set<String> THROWN = Set.of(
+            "IllegalStateException", "IllegalArgumentException", "IndexOutOfBoundsException");
+
+    private static final Check check = new Check();
+
+    private LanguageTest() {}
+
+    public static void main(String[] args) throws IOException {
+        List<String> lines = Files.readAllLines(CLASS_FILE);
+        String code = withoutComments(String.join("\n", lines));
+        for (String pattern : NOT_THERE) {
+            check.holds("there is " + pattern, !Pattern.compile(pattern).matcher(code).find());
+        }
+        all(code, "import ([\\w.]+);", IMPORTS);
+        all(code, "throw new (\\w+)\\(\"[^\"]*\"\\);", THROWN);
+        check.same("every throw makes its exception",
+                count(code, "\\bthrow\\b"), count(code, "throw new \\w+\\(\"[^\"]*\"\\);"));
+        check.same("one class outside", count(code, "(?m)^\\S.*\\b(class|interface|enum|record)\\b"), 1);
+        for (String line : lines) {
+            check.holds("plain signs: " + line, line.matches("[\\x20-\\x7e]*"));
+        }
+        methodLengths(lines);
+        check.end("LanguageTest");
+    }
+
+    private static String withoutComments(String code) {
+        return code.replaceAll("(?s)/\\*.*?\\*/", "").replaceAll("//[^\n]*", "");
+    }
+
+    private static int count(String code, String pattern) {
+        Matcher matcher = Pattern.compile(pattern).matcher(code);
+        int count = 0;
+        while (matcher.find()) {
+            count++;
+        }
+        return count;
+    }
+
+    private static void all(String code, String pattern, Set<String> allowed) {
+        Matcher matcher = Pattern.compile(pattern).matcher(code);
+        while (matcher.find()) {
+            check.holds(matcher.group(), allowed.contains(matcher.group(1)));
+        }
+    }
+
+    /** A method stands between its opening line and the brace of the same depth. */
+    private static void methodLengths(List<String> lines) {
+        Pattern opening = Pattern.compile("( {4}| {8})(?=\\w)[\\w<>\\[\\] ]*\\w\\(.*");
+        for (int i = 0; i < lines.size(); i++) {
+            Matcher matcher = opening.matcher(lines.get(i));
+            if (matcher.matches() && !lines.get(i).endsWith(";")) {
+                int end = i;
+                while (!lines.get(end).equals(matcher.group(1) + "}")) {
+                    end++;
+                }
+                check.holds(lines.get(i).trim() + " is short", end - i < LONGEST_METHOD);
+            }
+        }
+    }
+}
