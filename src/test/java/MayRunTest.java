@@ -1,5 +1,3 @@
-import java.util.function.Supplier;
-
 /** Promise 8: who may run, by each reason and by which comes first. */
 public final class MayRunTest {
     private static final int NONE = Stablingroad.NONE;
@@ -20,7 +18,6 @@ public final class MayRunTest {
         axlesApart();
         smallAxles();
         whichComesFirst();
-        refused();
         check.end("MayRunTest");
     }
 
@@ -205,14 +202,5 @@ public final class MayRunTest {
         x.mend(0, 1);
         x.lathe(0);
         check.same("8: nothing left", x.whyNot(0, 2), 0);
-    }
-
-    private static void refused() {
-        Class<IndexOutOfBoundsException> index = IndexOutOfBoundsException.class;
-        Supplier<Stablingroad> small = Depots.small();
-        check.refused("8: unit 3", index, small, y -> y.whyNot(3, 0));
-        check.refused("8: unit -1", index, small, y -> y.whyNot(-1, 0));
-        check.refused("8: diagram 2", index, small, y -> y.whyNot(0, 2));
-        check.refused("8: diagram -1", index, small, y -> y.whyNot(0, -1));
     }
 }

@@ -2,7 +2,6 @@ import java.util.function.Supplier;
 
 /** Promises 7 and 9 to 11: pins, and the best allocation by two ways. */
 public final class MorningTest {
-    private static final Class<IndexOutOfBoundsException> INDEX = IndexOutOfBoundsException.class;
     private static final int NONE = Stablingroad.NONE;
     private static final int DOOR = Stablingroad.DOOR;
     private static final int TOILET = Stablingroad.TOILET;
@@ -13,7 +12,6 @@ public final class MorningTest {
 
     public static void main(String[] args) {
         pin();
-        pinRefused();
         weightsAndOrder();
         onlyOnesThatFit();
         sixAndSix();
@@ -23,7 +21,7 @@ public final class MorningTest {
         pins();
         anewFirst();
         homingOfTheFirst();
-        allocationRefused();
+        askingChangesNothing();
         lack();
         check.end("MorningTest");
     }
@@ -51,15 +49,6 @@ public final class MorningTest {
         x.day();
         check.same("7: pins stay", x.pin(0, NONE), 0);
         check.same("7: pinned no more", x.pin(0, NONE), NONE);
-    }
-
-    private static void pinRefused() {
-        Supplier<Stablingroad> small = Depots.small();
-        check.refused("7: diagram 2", INDEX, small, y -> y.pin(2, 0));
-        check.refused("7: diagram -1", INDEX, small, y -> y.pin(-1, 0));
-        check.refused("7: diagram 2, to none", INDEX, small, y -> y.pin(2, NONE));
-        check.refused("7: unit 3", INDEX, small, y -> y.pin(1, 3));
-        check.refused("7: unit -2", INDEX, small, y -> y.pin(1, -2));
     }
 
     private static void weightsAndOrder() {
@@ -258,26 +247,13 @@ public final class MorningTest {
         allocated("the diagram 0 brings it home", x, 1, 0);
     }
 
-    private static void allocationRefused() {
+    private static void askingChangesNothing() {
         Supplier<Stablingroad> small = Depots.small();
-        check.refused("9: diagram 2", INDEX, small, y -> y.allocation(2));
-        check.refused("9: diagram -1", INDEX, small, y -> y.allocation(-1));
-        check.refused("10: diagram 2", INDEX, small, y -> y.allocationAnew(2));
-        check.refused("10: diagram -1", INDEX, small, y -> y.allocationAnew(-1));
-        Supplier<Stablingroad> five = Check.after(y -> {
-            y.unit(0, 0);
-            for (int d = 0; d < 5; d++) {
-                y.diagram(0, 0, 10, 0, 1);
-            }
-        });
-        Class<IllegalStateException> state = IllegalStateException.class;
-        check.refused("10: five diagrams", state, five, y -> y.allocationAnew(4));
-        check.refused("10: diagram, then five", INDEX, five, y -> y.allocationAnew(5));
-        check.same("9: five are fine", five.get().allocation(0), 0);
         Stablingroad asked = small.get();
         asked.allocation(0);
         asked.allocationAnew(0);
         asked.lack();
+        asked.whyNot(0, 0);
         check.same("9: asking changes nothing", Seen.all(asked), Seen.all(small.get()));
     }
 

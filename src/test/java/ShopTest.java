@@ -1,9 +1,5 @@
-import java.util.function.Supplier;
-
 /** Promises 13 to 15: the pit, the lathe, and mending. */
 public final class ShopTest {
-    private static final Class<IndexOutOfBoundsException> INDEX = IndexOutOfBoundsException.class;
-    private static final Class<IllegalStateException> STATE = IllegalStateException.class;
     private static final int FLAT = Stablingroad.FLAT;
     private static final int DOOR = Stablingroad.DOOR;
     private static final int ENGINE = Stablingroad.ENGINE;
@@ -15,12 +11,9 @@ public final class ShopTest {
 
     public static void main(String[] args) {
         examine();
-        examineRefused();
         lathe();
         latheBelowNothing();
-        latheRefused();
         mend();
-        mendRefused();
         check.end("ShopTest");
     }
 
@@ -40,25 +33,6 @@ public final class ShopTest {
             check.same("13: the km stay", x.about(0, 1), 800);
             check.same("13: the axles stay", x.axle(0, 0), 899);
         }
-    }
-
-    private static void examineRefused() {
-        Supplier<Stablingroad> small = Depots.small();
-        check.refused("13: unit 3", INDEX, small, y -> y.examine(3, 0));
-        check.refused("13: unit -1", INDEX, small, y -> y.examine(-1, 0));
-        check.refused("13: exam 3", INDEX, small, y -> y.examine(0, 3));
-        check.refused("13: exam -1", INDEX, small, y -> y.examine(0, -1));
-        check.refused("13: exam, then place", INDEX, small, y -> y.examine(1, 3));
-        check.refused("13: at the depot 2", STATE, small, y -> y.examine(1, 0));
-        Supplier<Stablingroad> taken = Check.after(y -> {
-            y.unit(0, 0);
-            y.unit(0, 0);
-            y.day();
-            y.examine(0, 0);
-        });
-        check.refused("13: done today", STATE, taken, y -> y.examine(1, 0));
-        check.refused("13: the same today", STATE, taken, y -> y.examine(0, 1));
-        check.refused("13: exam, then done today", INDEX, taken, y -> y.examine(1, 3));
     }
 
     private static void lathe() {
@@ -108,24 +82,6 @@ public final class ShopTest {
         check.same("14: below 0", x.axle(0, 2), -60);
     }
 
-    private static void latheRefused() {
-        Supplier<Stablingroad> small = Depots.small();
-        check.refused("14: unit 3", INDEX, small, y -> y.lathe(3));
-        check.refused("14: unit -1", INDEX, small, y -> y.lathe(-1));
-        check.refused("14: at the depot 2", STATE, small, y -> y.lathe(1));
-        check.refused("14: turned today", STATE, small, y -> y.lathe(2));
-        check.refused("14: the same today", STATE, small, y -> y.lathe(0));
-        Supplier<Stablingroad> away = Check.after(y -> {
-            y.unit(1, 0);
-            y.unit(0, 0);
-            y.fault(0, FLAT, 0, 1);
-        });
-        check.refused("14: at the depot 1", STATE, away, y -> y.lathe(0));
-        Stablingroad both = away.get();
-        check.same("14: the lathe", both.lathe(1), 900);
-        check.same("13: and the pit on the same day", both.examine(1, 0), 1);
-    }
-
     private static void mend() {
         Stablingroad x = new Stablingroad();
         x.unit(2, 0);
@@ -143,15 +99,5 @@ public final class ShopTest {
         check.same("15: a toilet", x.mend(0, 0), TOILET);
         check.same("15: the last", x.mend(0, 1), ENGINE);
         check.same("15: the flat is left", x.about(0, 2), 1);
-    }
-
-    private static void mendRefused() {
-        Supplier<Stablingroad> small = Depots.small();
-        check.refused("15: unit 3", INDEX, small, y -> y.mend(3, 0));
-        check.refused("15: unit -1", INDEX, small, y -> y.mend(-1, 0));
-        check.refused("15: place 1", INDEX, small, y -> y.mend(0, 1));
-        check.refused("15: place -1", INDEX, small, y -> y.mend(0, -1));
-        check.refused("15: no faults", INDEX, small, y -> y.mend(2, 0));
-        check.refused("15: a flat", STATE, small, y -> y.mend(1, 0));
     }
 }

@@ -1,10 +1,5 @@
-import java.util.function.Supplier;
-
 /** Promises 1 to 6: a new object, and what is told. */
 public final class ToldTest {
-    private static final Class<IndexOutOfBoundsException> INDEX = IndexOutOfBoundsException.class;
-    private static final Class<IllegalArgumentException> ARGUMENT = IllegalArgumentException.class;
-    private static final Class<IllegalStateException> STATE = IllegalStateException.class;
     private static final int NONE = Stablingroad.NONE;
     private static final int FLAT = Stablingroad.FLAT;
     private static final int DOOR = Stablingroad.DOOR;
@@ -19,16 +14,11 @@ public final class ToldTest {
         constants();
         newObject();
         unit();
-        unitRefused();
         diagram();
-        diagramRefused();
         examBounds();
         examsAtFirst();
-        examRefused();
         list();
-        listRefused();
         fault();
-        faultRefused();
         check.end("ToldTest");
     }
 
@@ -48,8 +38,6 @@ public final class ToldTest {
         for (int depot = 0; depot < 3; depot++) {
             check.same("1: stands at " + depot, x.stands(depot, 0), NONE);
         }
-        check.refused("1: no unit", INDEX, Stablingroad::new, y -> y.about(0, 0));
-        check.refused("1: no diagram", INDEX, Stablingroad::new, y -> y.allocation(0));
         check.same("1: a day of nothing", x.day(), 0);
         x.unit(0, 5);
         check.same("1: objects share nothing", new Stablingroad().unit(0, 6), 0);
@@ -79,22 +67,6 @@ public final class ToldTest {
         check.same("2: clocks begin when it is told", x.clock(3, 0, true), 0);
     }
 
-    private static void unitRefused() {
-        check.refused("2: depot 3", INDEX, Depots.small(), y -> y.unit(3, 0));
-        check.refused("2: depot -1", INDEX, Depots.small(), y -> y.unit(-1, 0));
-        check.refused("2: depot, then km", INDEX, Depots.small(), y -> y.unit(3, -1));
-        check.refused("2: km -1", ARGUMENT, Depots.small(), y -> y.unit(0, -1));
-        check.refused("2: km 1000001", ARGUMENT, Depots.small(), y -> y.unit(0, 1000001));
-        Supplier<Stablingroad> full = Check.after(y -> {
-            for (int i = 0; i < 6; i++) {
-                check.same("2: its number", y.unit(i % 3, i), i);
-            }
-        });
-        check.refused("2: the seventh", STATE, full, y -> y.unit(0, 0));
-        check.refused("2: km, then the seventh", ARGUMENT, full, y -> y.unit(0, -1));
-        check.refused("2: depot, then the seventh", INDEX, full, y -> y.unit(7, 0));
-    }
-
     private static void diagram() {
         Stablingroad x = new Stablingroad();
         check.same("3: the least", x.diagram(0, 0, 1, 0, 1), 0);
@@ -107,29 +79,6 @@ public final class ToldTest {
         check.same("3: one day", x.day(), 1);
         check.same("3: goes to 1", x.about(0, 0), 1);
         check.same("3: its km", x.about(0, 1), 2000);
-    }
-
-    private static void diagramRefused() {
-        Supplier<Stablingroad> small = Depots.small();
-        check.refused("3: from 3", INDEX, small, y -> y.diagram(3, 0, 1, 0, 1));
-        check.refused("3: from -1", INDEX, small, y -> y.diagram(-1, 0, 1, 0, 1));
-        check.refused("3: to 3", INDEX, small, y -> y.diagram(0, 3, 1, 0, 1));
-        check.refused("3: to -1", INDEX, small, y -> y.diagram(0, -1, 1, 0, 1));
-        check.refused("3: to, then km", INDEX, small, y -> y.diagram(0, 3, 0, 3, 0));
-        check.refused("3: km 0", ARGUMENT, small, y -> y.diagram(0, 0, 0, 0, 1));
-        check.refused("3: km 2001", ARGUMENT, small, y -> y.diagram(0, 0, 2001, 0, 1));
-        check.refused("3: line -1", ARGUMENT, small, y -> y.diagram(0, 0, 1, -1, 1));
-        check.refused("3: line 3", ARGUMENT, small, y -> y.diagram(0, 0, 1, 3, 1));
-        check.refused("3: weight 0", ARGUMENT, small, y -> y.diagram(0, 0, 1, 0, 0));
-        check.refused("3: weight 101", ARGUMENT, small, y -> y.diagram(0, 0, 1, 0, 101));
-        Supplier<Stablingroad> full = Check.after(y -> {
-            for (int i = 0; i < 6; i++) {
-                check.same("3: its number", y.diagram(i % 3, 0, 10, 0, 1), i);
-            }
-        });
-        check.refused("3: the seventh", STATE, full, y -> y.diagram(0, 0, 1, 0, 1));
-        check.refused("3: km, then the seventh", ARGUMENT, full, y -> y.diagram(0, 0, 0, 0, 1));
-        check.refused("3: to, then the seventh", INDEX, full, y -> y.diagram(0, 9, 1, 0, 1));
     }
 
     private static void examBounds() {
@@ -179,19 +128,6 @@ public final class ToldTest {
         check.same("4: exam " + exam + " a day later", idle.about(0, 5) >> exam & 1, 1);
     }
 
-    private static void examRefused() {
-        Supplier<Stablingroad> small = Depots.small();
-        check.refused("4: exam 3", INDEX, small, y -> y.exam(3, 100, 0, 0));
-        check.refused("4: exam -1", INDEX, small, y -> y.exam(-1, 100, 0, 0));
-        check.refused("4: exam, then km", INDEX, small, y -> y.exam(3, 99, 0, 0));
-        check.refused("4: km 99", ARGUMENT, small, y -> y.exam(0, 99, 0, 0));
-        check.refused("4: km 100001", ARGUMENT, small, y -> y.exam(0, 100001, 20, 0));
-        check.refused("4: tolerance -1", ARGUMENT, small, y -> y.exam(0, 100, -1, 0));
-        check.refused("4: tolerance 21", ARGUMENT, small, y -> y.exam(0, 100, 21, 0));
-        check.refused("4: days -1", ARGUMENT, small, y -> y.exam(0, 100, 0, -1));
-        check.refused("4: days 401", ARGUMENT, small, y -> y.exam(0, 100, 0, 401));
-    }
-
     private static void list() {
         Stablingroad x = new Stablingroad();
         for (int kind = 0; kind < 4; kind++) {
@@ -202,18 +138,6 @@ public final class ToldTest {
         check.same("5: with NONE any line", x.list(2, NONE, 3), NONE);
         check.same("5: days 0", x.list(2, 0, 0), NONE);
         check.same("5: 0 is not NONE", x.list(2, 1, 0), 0);
-    }
-
-    private static void listRefused() {
-        Supplier<Stablingroad> small = Depots.small();
-        check.refused("5: kind 4", INDEX, small, y -> y.list(4, 0, 0));
-        check.refused("5: kind -1", INDEX, small, y -> y.list(-1, 0, 0));
-        check.refused("5: kind, then days", INDEX, small, y -> y.list(4, 31, 3));
-        check.refused("5: kind, with NONE", INDEX, small, y -> y.list(4, NONE, 0));
-        check.refused("5: days 31", ARGUMENT, small, y -> y.list(TOILET, 31, 0));
-        check.refused("5: days -2", ARGUMENT, small, y -> y.list(TOILET, -2, 0));
-        check.refused("5: line 3", ARGUMENT, small, y -> y.list(TOILET, 0, 3));
-        check.refused("5: line -1", ARGUMENT, small, y -> y.list(TOILET, 0, -1));
     }
 
     private static void fault() {
@@ -227,34 +151,5 @@ public final class ToldTest {
         check.same("6: an engine that lost 1", x.fault(0, ENGINE, 99, 1), 5);
         check.same("6: a toilet, any of both", x.fault(0, TOILET, -4, -4), 6);
         check.same("6: each unit has its own", x.fault(1, TOILET, 0, 0), 1);
-    }
-
-    private static void faultRefused() {
-        Supplier<Stablingroad> small = Depots.small();
-        check.refused("6: unit 3", INDEX, small, y -> y.fault(3, FLAT, 0, 1));
-        check.refused("6: unit -1", INDEX, small, y -> y.fault(-1, FLAT, 0, 1));
-        check.refused("6: kind 4", INDEX, small, y -> y.fault(0, 4, 0, 1));
-        check.refused("6: kind -1", INDEX, small, y -> y.fault(0, -1, 0, 1));
-        check.refused("6: axle 4", INDEX, small, y -> y.fault(0, FLAT, 4, 1));
-        check.refused("6: axle -1", INDEX, small, y -> y.fault(0, FLAT, -1, 1));
-        check.refused("6: car 4", INDEX, small, y -> y.fault(0, DOOR, 4, 1));
-        check.refused("6: car -1", INDEX, small, y -> y.fault(0, DOOR, -1, 1));
-        check.refused("6: axle, then depth", INDEX, small, y -> y.fault(0, FLAT, 4, 0));
-        check.refused("6: depth 0", ARGUMENT, small, y -> y.fault(0, FLAT, 0, 0));
-        check.refused("6: depth 21", ARGUMENT, small, y -> y.fault(0, FLAT, 0, 21));
-        check.refused("6: power 0", ARGUMENT, small, y -> y.fault(0, ENGINE, 0, 0));
-        check.refused("6: power 101", ARGUMENT, small, y -> y.fault(0, ENGINE, 0, 101));
-        Supplier<Stablingroad> full = Check.after(y -> {
-            y.unit(0, 0);
-            for (int i = 1; i <= 8; i++) {
-                check.same("6: how many", y.fault(0, TOILET, 0, 0), i);
-            }
-        });
-        check.refused("6: the ninth", STATE, full, y -> y.fault(0, TOILET, 0, 0));
-        check.refused("6: depth, then the ninth", ARGUMENT, full, y -> y.fault(0, FLAT, 0, 0));
-        check.refused("6: car, then the ninth", INDEX, full, y -> y.fault(0, DOOR, 4, 0));
-        Stablingroad mended = full.get();
-        mended.mend(0, 0);
-        check.same("6: room again behind mending", mended.fault(0, DOOR, 0, 0), 8);
     }
 }
