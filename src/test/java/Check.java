@@ -74,7 +74,7 @@ final class Check {
             String told = what + " " + n;
             if (least <= n && n <= most) {
                 String got = outcome(() -> call.applyAsInt(made.get(), n));
-                holds(told + " answered " + got, !got.endsWith("Exception"));
+                holds(told + " answered " + got, !got.contains("Exception"));
             } else {
                 refused(told, due, made, y -> call.applyAsInt(y, n));
             }
@@ -97,8 +97,20 @@ final class Check {
         try {
             return String.valueOf(call.get());
         } catch (RuntimeException thrown) {
-            return thrown.getClass().getSimpleName();
+            return nameOf(thrown, Stablingroad.class);
         }
+    }
+
+    /**
+     * An exception's name; another one if it was not thrown by that class or one inside it, as then
+     * the machine or the library threw it.
+     */
+    static String nameOf(Throwable thrown, Class<?> thrower) {
+        StackTraceElement[] calls = thrown.getStackTrace();
+        String by = calls.length == 0 ? "the machine" : calls[0].getClassName();
+        boolean isOwn = by.equals(thrower.getName()) || by.startsWith(thrower.getName() + "$");
+        String name = thrown.getClass().getSimpleName();
+        return isOwn ? name : name + " thrown by " + by;
     }
 
     static Supplier<Stablingroad> after(Consumer<Stablingroad> calls) {

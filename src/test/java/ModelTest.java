@@ -129,7 +129,7 @@ public final class ModelTest {
         try {
             return String.valueOf(method.invoke(x, args));
         } catch (InvocationTargetException thrown) {
-            return thrown.getCause().getClass().getSimpleName();
+            return Check.nameOf(thrown.getCause(), x.getClass());
         }
     }
 

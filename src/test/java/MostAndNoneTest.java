@@ -18,9 +18,11 @@ public final class MostAndNoneTest {
         daysOfNothing();
         unitsAlone();
         diagramsAlone();
+        unitsBehindDiagrams();
         sixLeaveFromTheInside();
         sixLeaveFromTheExit();
         sixComeByDiagrams();
+        sixRunDayByDay();
         greatestLack();
         fourDiagramsAndSixUnits();
         eightFaultsEach();
@@ -87,6 +89,23 @@ public final class MostAndNoneTest {
         check.same("10: there is one now", x.allocationAnew(1), 0);
     }
 
+    /** What was found without units must not stand in the way of the lowest one. */
+    private static void unitsBehindDiagrams() {
+        Stablingroad x = new Stablingroad();
+        x.diagram(0, 0, 10, 0, 2);
+        x.diagram(0, 0, 10, 0, 2);
+        check.same("10: without units", x.allocationAnew(0), NONE);
+        check.same("9: without units", x.allocation(1), NONE);
+        for (int units = 1; units <= 3; units++) {
+            x.unit(0, 0);
+            int second = units == 1 ? NONE : 1;
+            check.same("10: the lowest", x.allocationAnew(0), 0);
+            check.same("10: the lowest but one", x.allocationAnew(1), second);
+            check.same("9: the lowest", x.allocation(0), 0);
+            check.same("9: the lowest but one", x.allocation(1), second);
+        }
+    }
+
     /** Six units in the row of a depot, and six diagrams from there, to these depots in turn. */
     private static Stablingroad sixAndSix(int... to) {
         Stablingroad x = new Stablingroad();
@@ -136,6 +155,30 @@ public final class MostAndNoneTest {
         row("12: at the depot 1", x, 1, 4, 1);
         check.same("21: nobody is left", x.stands(2, 0), NONE);
         check.same("11: all is lacking then", x.lack(), 600);
+    }
+
+    /** Each day the next unit runs a diagram; then none may run. */
+    private static void sixRunDayByDay() {
+        Stablingroad x = sixAndSix(2);
+        for (int day = 0; day < 6; day++) {
+            for (int d = 0; d < 6; d++) {
+                x.pin(d, (d + day) % 6);
+            }
+            check.same("12: all of them run", x.day(), 0);
+        }
+        for (int u = 0; u < 6; u++) {
+            x.fault(u, TOILET, 0, 0);
+        }
+        check.same("12: none of them runs", x.day(), 600);
+        for (int d = 0; d < 6; d++) {
+            for (int day = 0; day < 6; day++) {
+                String what = "23: diagram " + d + ", day " + day;
+                check.same(what, x.ran(d, day), (d + day) % 6);
+            }
+            check.same("23: none on the last day", x.ran(d, 6), NONE);
+            check.same("24: each diagram once", x.kmAnew(d), 10 + 11 + 12 + 13 + 14 + 15);
+            check.same("17: the same km", x.about(d, 1), 75);
+        }
     }
 
     private static void greatestLack() {
