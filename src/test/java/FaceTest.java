@@ -130,12 +130,24 @@ public final class FaceTest {
         return false;
     }
 
+    private static boolean isNumber(Class<?> type) {
+        return type.isPrimitive() && type != double.class && type != float.class;
+    }
+
+    /** What the class holds by now: whole numbers, its own classes, rows and lists of these. */
+    private static boolean isOfLanguage(Class<?> type) {
+        Class<?> part = type.isArray() ? type.getComponentType() : type;
+        return isNumber(part) || part.getNestHost() == Stablingroad.class || part == ArrayList.class;
+    }
+
     private static void inside(Class<?> type) {
         int fields = 0;
         for (Field field : type.getDeclaredFields()) {
             if (Modifier.isStatic(field.getModifiers())) {
                 check.holds(field + " is final", Modifier.isFinal(field.getModifiers()));
+                check.holds(field + " is a constant", isNumber(field.getType()));
             } else {
+                check.holds(field + " is of a type that may be", isOfLanguage(field.getType()));
                 fields++;
             }
         }

@@ -1,8 +1,12 @@
 import java.io.IOException;
 import java.nio.file.Files;
 import java.nio.file.Path;
+import java.util.ArrayList;
 import java.util.List;
+import java.util.Map;
 import java.util.Set;
+import java.util.TreeMap;
+import java.util.TreeSet;
 import java.util.regex.Matcher;
 import java.util.regex.Pattern;
 
@@ -10,6 +14,7 @@ import java.util.regex.Pattern;
 public final class LanguageTest {
     private static final Path CLASS_FILE = Path.of("src/main/java/Stablingroad.java");
     private static final int LONGEST_METHOD = 60;
+    private static final int DEEPEST_CALLS = 8;
 
     private static final String[] NOT_THERE = {
         "\\btry\\b", "\\bcatch\\b", "\\bfinally\\b", "\\bsynchronized\\b", "\\bassert\\b",
@@ -40,7 +45,9 @@ public final class LanguageTest {
         for (String line : lines) {
             check.holds("plain signs: " + line, line.matches("[\\x20-\\x7e]*"));
         }
-        methodLengths(lines);
+        List<Block> blocks = blocksOf(lines);
+        methodLengths(blocks);
+        callDepths(blocks);
         check.end("LanguageTest");
     }
 
@@ -64,9 +71,12 @@ public final class LanguageTest {
         }
     }
 
-    /** A method stands between its opening line and the brace of the same depth. */
-    private static void methodLengths(List<String> lines) {
-        Pattern opening = Pattern.compile("( {4}| {8})(?=\\w)[\\w<>\\[\\] ]*\\w\\(.*");
+    /** A method or constructor, from its opening line to the brace of the same depth. */
+    private record Block(String name, String head, List<String> lines) {}
+
+    private static List<Block> blocksOf(List<String> lines) {
+        Pattern opening = Pattern.compile("( {4}| {8})(?=\\w)[\\w<>\\[\\] ]*?(\\w+)\\(.*");
+        List<Block> blocks = new ArrayList<>();
         for (int i = 0; i < lines.size(); i++) {
             Matcher matcher = opening.matcher(lines.get(i));
             if (matcher.matches() && !lines.get(i).endsWith(";")) {
@@ -74,8 +84,54 @@ public final class LanguageTest {
                 while (!lines.get(end).equals(matcher.group(1) + "}")) {
                     end++;
                 }
-                check.holds(lines.get(i).trim() + " is short", end - i < LONGEST_METHOD);
+                blocks.add(new Block(matcher.group(2), lines.get(i).trim(), lines.subList(i, end)));
             }
+        }
+        return blocks;
+    }
+
+    private static void methodLengths(List<Block> blocks) {
+        check.holds("the methods are found", blocks.size() > 60);
+        for (Block block : blocks) {
+            check.holds(block.head + " is short", block.lines.size() <= LONGEST_METHOD);
+        }
+    }
+
+    /** By names alone, so that methods of one name count as one: that can only make it deeper. */
+    private static Map<String, Set<String>> callsOf(List<Block> blocks) {
+        Map<String, Set<String>> calls = new TreeMap<>();
+        for (Block block : blocks) {
+            calls.put(block.name, new TreeSet<>());
+        }
+        for (Block block : blocks) {
+            String body = String.join("\n", block.lines.subList(1, block.lines.size()));
+            Matcher called = Pattern.compile("\\b(\\w+)\\(").matcher(withoutComments(body));
+            while (called.find()) {
+                if (calls.containsKey(called.group(1))) {
+                    calls.get(block.name).add(called.group(1));
+                }
+            }
+        }
+        return calls;
+    }
+
+    /** No deeper than is too deep already: a method that called itself would have no end. */
+    private static int depthOf(String name, Map<String, Set<String>> calls, int open) {
+        int deepest = 1;
+        if (open <= DEEPEST_CALLS) {
+            for (String called : calls.get(name)) {
+                deepest = Math.max(deepest, 1 + depthOf(called, calls, open + 1));
+            }
+        }
+        return deepest;
+    }
+
+    private static void callDepths(List<Block> blocks) {
+        Map<String, Set<String>> calls = callsOf(blocks);
+        check.holds("calls are found", calls.get("day").contains("readMorning"));
+        for (String name : calls.keySet()) {
+            int depth = depthOf(name, calls, 1);
+            check.holds(name + " calls " + depth + " deep", depth <= DEEPEST_CALLS);
         }
     }
 }
